@@ -507,7 +507,7 @@ public final class DawnCoin {
 
     private void offerTwoThings(int person, int n) {
         for (int one = 0; one < THINGS; one++) {
-            // What comes second is the higher number: the other way round the row would be told by more.
+            // Two things do the same in either order, and the other order is the greater number.
             for (int two = one + 1; two < THINGS && canSayThing(one); two++) {
                 if (canSayThing(two)) {
                     int gain = one / TABLES == two / TABLES
@@ -577,7 +577,7 @@ public final class DawnCoin {
             mine[pair] = 0;
             theirs[pair] = 0;
             for (int r = 0; r < told.rumours; r++) {
-                // Where both say the same at one table, the later one adds nothing: a set of tables shows just that.
+                // The later one of two that say the same at one table adds nothing, as a bit set twice.
                 int said = now.saidOf(r);
                 said |= pair / CHOICES == r + 1 ? 1 << told.seatOf(person) : 0;
                 said |= pair % CHOICES == r + 1 ? 1 << told.seatOf(other) : 0;

@@ -42,8 +42,8 @@ public final class LanguageTest {
             due.holds(m.group().trim() + " has " + lines + " lines", lines <= 60);
             due.holds(m.group().trim() + " has 7 parameters at most", m.group(2).split(",").length <= 7);
         }
-        due.is("classes", Pattern.compile("\\b(class|enum|record|interface) ").matcher(code).results().filter(x -> true).count(),
-            1 + DawnCoin.class.getDeclaredClasses().length);
+        long classes = Pattern.compile("\\b(class|enum|record|interface) ").matcher(code).results().count();
+        due.is("classes", classes, 1 + DawnCoin.class.getDeclaredClasses().length);
         due.holds("twelve classes at most", DawnCoin.class.getDeclaredClasses().length < 12);
     }
 
