@@ -162,6 +162,10 @@ public final class WorthTest {
         DUE.is("four figures for one", c.judge(1, 1000), DawnCoin.OUTSIDE);
         DUE.is("thirteen figures for four", c.judge(4, 1000000000000L), DawnCoin.OUTSIDE);
         DUE.is("twelve figures for four", c.judge(4, 999999999999L), 0);
+        DawnCoin fewer = Due.town("YR100R901");
+        Due.write(fewer, "YR111");
+        fewer.town();
+        DUE.is("a rumour of an earlier town is worth nothing", fewer.judge(1, 200), 0);
     }
 
     private static void nothingChanged() {
