@@ -207,6 +207,8 @@ final class ActsEdges {
         e.edge(13, words, "town YR500S00", "deny(0, 5) 1", "undo() 0", "rumour(0, 3) 1", "rumour(0, 4) 0");
         e.edge(13, words, "town YR500P0P5S00", "dawn() 1", "pay(0, 1, 0) 7", "count(7) 2", "undo() 1", "coins(0, 0) 1",
             "coins(1, 0) 0");
+        e.edge(13, words, "town YR500P0P0P0P5S05", "dawn() 1", "coins(3, 0) 1", "pay(3, 2, 0) 7", "undo() 1", "coins(3, 0) 1",
+            "coins(2, 0) 0", "undo() 0", "coins(3, 0) 0");
         // A dawn that struck no coin into a full purse takes none out of it when it is undone.
         e.edge(13, words, "town YR500P0S00", "100 dawn()", "coins(0, 0) 99", "undo() 13", "coins(0, 0) 99", "undo() 12",
             "coins(0, 0) 98");

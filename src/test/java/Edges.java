@@ -43,6 +43,10 @@ final class Edges {
         due.holds(label + ": questions and refusals change nothing: " + all + " " + alone, all.equals(alone));
     }
 
+    int wrong() {
+        return due.wrong();
+    }
+
     void end() {
         for (int i = 1; i <= 31; i++) {
             due.holds("promise " + i + " has a test of its boundaries", promises.get(i));

@@ -45,6 +45,8 @@ final class SlotsEdges {
             "rumour(0, 4) 32", "rumour(0, 3) 1");
         e.edge(30, words, "town YR500P0P5S00", "dawn() 1", "keep(0) 1", "pay(0, 1, 0) 7", "again(0) 1", "coins(0, 0) 1",
             "coins(1, 0) 0");
+        e.edge(30, words, "town YR100R100R100R100R900P0P0P0P5S45", "dawn() 1", "deny(4, 0) 2", "keep(1) 1", "pay(3, 2, 4) 10",
+            "deny(4, 5) 1", "again(1) 1", "coins(3, 4) 1", "coins(2, 4) 0", "rumour(4, 3) 48", "rumour(4, 4) 1");
         e.edge(30, words, "town YR511S00", "keep(0) 0", "dawn()", "rumour(0, 6) 1", "again(0) 0", "rumour(0, 6) 0", "count(3) 0",
             "rumour(0, 3) 1");
         // The text, what is heard and the seed are not among them.

@@ -69,6 +69,8 @@ final class WorthEdges {
             "purse(0, 8) 0");
         e.edge(15, "the WORTH of all its COINS together then.", "town YR200R300P0P0S00S10", "2 dawn()", "purse(0, 0) 22",
             "purse(1, 0) 22", "purse(0, 1) 39");
+        e.edge(15, "the WORTH of all its COINS together then.", "town YR100R100R100R100R900P0P0P0P5S45", "dawn() 1",
+            "purse(3, 0) 11", "purse(3, 1) 24", "purse(2, 8) 60", "purse(0, 0) 0");
         e.edge(15, "(it has 99 of one at most)", "town YR200P0S00", "98 dawn()", "purse(0, 0) 784", "purse(0, 1) 792",
             "purse(0, 2) 792", "purse(0, 8) 792");
         e.edge(15, "WORTH: of a PROVED lie 0", "town YR212P0S00", "purse(0, 1) 4", "purse(0, 2) 0", "purse(0, 8) 0");
@@ -129,6 +131,8 @@ final class WorthEdges {
             "plan(0, 0, true) 105", "deny(0, 5) 2", "plan(0, 0, false) 3", "plan(0, 0, true) 1");
         e.edge(18, "(as figures behind a 1: RUMOUR, TABLE each", "town YR101R101R101R101R500P0S40", "dawn() 1", "deny(4, 0) 1",
             "deny(4, 1) 0", "deny(4, 2) 0", "deny(4, 3) 0", "plan(0, 0, false) 3", "plan(0, 0, true) 14445");
+        e.edge(18, "(as figures behind a 1: RUMOUR, TABLE each", "town YR101R500P0", "dawn() 0", "plan(0, 8, true) 110",
+            "town YR101R101R101R101R500P0", "dawn() 0", "plan(0, 8, true) 140");
         e.edge(18, "its PURSE is worth most IN n DAYS", "town YR500P0", "plan(0, 8, false) 88", "plan(0, 8, true) 100");
     }
 
@@ -215,11 +219,14 @@ final class WorthEdges {
         e.edge(20, "told as three figures each (0, RUMOUR, TABLE: SAID", "town YR500R500", "judge(1, 5) NONE", "judge(1, 6) 0",
             "judge(1, 9) 0", "judge(1, 15) NONE", "judge(1, 20) 0", "judge(1, 90) 0");
         e.edge(20, "1, RUMOUR, TABLE: DENIED", "town YR500R100", "deny(1, 0) 0", "judge(1, 115) NONE", "judge(1, 116) 0",
-            "judge(1, 110) 0", "judge(1, 120) 0", "judge(2, 115115) 1", "judge(2, 115015) 1");
+            "judge(1, 110) 0", "judge(1, 120) 0", "judge(1, 190) 0", "judge(2, 115115) 1", "judge(2, 115015) 1");
+        e.edge(20, "1, RUMOUR, TABLE: DENIED", "town YR101R101R101R101R111", "dawn()", "judge(1, 140) NONE", "judge(1, 145) NONE",
+            "judge(1, 146) 0", "judge(1, 150) 0", "judge(1, 199) 0");
         e.edge(20, "1, RUMOUR, TABLE: DENIED", "town YR501R511", "dawn()", "judge(1, 100) 0", "judge(1, 110) NONE",
             "judge(1, 0) 0", "judge(1, 10) 0");
         e.edge(20, "2, any two: a DAWN)", "town YR500", "judge(1, 200) NONE", "judge(1, 299) NONE", "judge(1, 266) NONE",
             "judge(1, 295) NONE");
+        e.edge(20, "2, any two: a DAWN)", "town YR500P0S00", "judge(4, 200200200200) NONE", "judge(2, 201001) 1");
         e.edge(20, "the place of the first that can not be", "town YR500", "judge(1, 300) 0", "judge(1, 900) 0",
             "judge(2, 200300) 1");
     }
