@@ -11,11 +11,9 @@ import java.util.regex.Pattern;
 final class Doc {
     private static final Path FILE = Path.of("../shared/DOC.md");
     private static final int PROMISES = 31;
-    private static final Pattern BOUNDARY = Pattern.compile(
-        "UNKNOWN|OUTSIDE|STATE|FULL|NONE|\\b\\d+ to \\d+|\\bat most\\b|\\bat least\\b|\\bor more\\b|\\bempty\\b|\\bgone\\b"
-        + "|\\b[Nn]one\\b|\\b[Nn]othing\\b|\\bnobody\\b|\\bnever\\b|\\bno\\b|\\bnot\\b|\\bleast\\b|\\bmost\\b|\\bfewer\\b"
-        + "|\\bfewest\\b|\\bfirst\\b|\\bforgotten\\b|\\banew\\b|\\bwrapping\\b|\\bnowhere\\b|\\bolder\\b|\\bends?\\b|\\bless\\b"
-        + "|\\bfrom its DAY on\\b|\\bif\\b|\\bbeside\\b|\\balone\\b|\\bboth\\b|\\bmore\\b|\\bstay\\b|\\bdown\\b");
+    private static final String WORDS = "UNKNOWN OUTSIDE STATE FULL NONE none None nothing Nothing nobody never no not "
+        + "nowhere empty gone least most more less fewer fewest first forgotten anew wrapping down if beside both alone stay";
+    private static final Pattern BOUNDARY = Pattern.compile("\\b(\\d+ to \\d+|" + WORDS.replace(' ', '|') + ")\\b");
 
     /** The Terms are section 0, a promise is its number, what stands ahead of the Terms is the last one. */
     private final String[] sections = new String[PROMISES + 2];
@@ -64,7 +62,8 @@ final class Doc {
                 if (quoted[i].nextClearBit(m.start()) < m.end()) {
                     int start = Math.max(0, m.start() - 30);
                     int end = Math.min(sections[i].length(), m.end() + 30);
-                    found.add((i == 0 ? "Terms" : "promise " + i) + ": .. " + sections[i].substring(start, end) + " ..");
+                    String where = i == 0 ? "Terms" : "promise " + i;
+                    found.add(where + ": .. " + sections[i].substring(start, end) + " ..");
                 }
             }
         }

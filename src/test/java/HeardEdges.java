@@ -18,8 +18,8 @@ final class HeardEdges {
             "hear(0, 5, 8, false) 3", "count(8) 3");
         e.edge(21, "6 such at most, none at first", "count(8) 0", "town YR500", "count(8) 0", "5 hear(0, 5, 8, true)",
             "hear(0, 5, 8, true) 6", "hear(0, 5, 8, true) FULL", "count(8) 6");
-        e.edge(21, "that IN n DAYS (0 to 8) from now on", "town YR500", "hear(0, 0, 0, true) 1", "hear(0, 0, 8, true) 2",
-            "hear(0, 0, -1, true) OUTSIDE", "hear(0, 0, 9, true) OUTSIDE", "count(8) 2");
+        e.edge(21, "that IN n DAYS (0 to 8) from now on", "town YR500", "hear(0, 0, 0, true) 1",
+            "hear(0, 0, 8, true) 2", "hear(0, 0, -1, true) OUTSIDE", "hear(0, 0, 9, true) OUTSIDE", "count(8) 2");
         e.edge(21, "a RUMOUR is SAID at a TABLE, or is not", "town YR500", "hear(0, 3, 0, true) 1", "where(0, 1) 8",
             "unhear() 1", "hear(0, 3, 0, false) 1", "where(0, 2) 8");
     }
@@ -29,14 +29,14 @@ final class HeardEdges {
             "count(8) 0");
         e.edge(21, "UNKNOWN", "town YR500", "hear(1, 0, 0, true) UNKNOWN", "hear(2147483647, 0, 0, false) UNKNOWN",
             "count(8) 0");
-        e.edge(21, "OUTSIDE: table, n", "town YR500", "hear(0, -1, 0, true) OUTSIDE", "hear(0, -2147483648, 0, true) OUTSIDE",
-            "count(8) 0");
-        e.edge(21, "OUTSIDE: table, n", "town YR500", "hear(0, 6, 0, true) OUTSIDE", "hear(0, 2147483647, 0, true) OUTSIDE",
-            "count(8) 0");
-        e.edge(21, "OUTSIDE: table, n", "town YR500", "hear(0, 0, -1, true) OUTSIDE", "hear(0, 0, -2147483648, true) OUTSIDE",
-            "count(8) 0");
-        e.edge(21, "OUTSIDE: table, n", "town YR500", "hear(0, 0, 9, true) OUTSIDE", "hear(0, 0, 2147483647, true) OUTSIDE",
-            "count(8) 0");
+        e.edge(21, "OUTSIDE: table, n", "town YR500", "hear(0, -1, 0, true) OUTSIDE",
+            "hear(0, -2147483648, 0, true) OUTSIDE", "count(8) 0");
+        e.edge(21, "OUTSIDE: table, n", "town YR500", "hear(0, 6, 0, true) OUTSIDE",
+            "hear(0, 2147483647, 0, true) OUTSIDE", "count(8) 0");
+        e.edge(21, "OUTSIDE: table, n", "town YR500", "hear(0, 0, -1, true) OUTSIDE",
+            "hear(0, 0, -2147483648, true) OUTSIDE", "count(8) 0");
+        e.edge(21, "OUTSIDE: table, n", "town YR500", "hear(0, 0, 9, true) OUTSIDE",
+            "hear(0, 0, 2147483647, true) OUTSIDE", "count(8) 0");
         e.edge(21, "FULL: 6.", "town YR500", "6 hear(0, 0, 0, true)", "hear(0, 5, 0, true) FULL", "where(0, 1) 1");
         e.edge(21, "REFUSALS, of several the first that a call names", "town YR500", "6 hear(0, 0, 0, true)",
             "hear(1, 6, 9, true) UNKNOWN", "hear(-1, 0, 0, true) UNKNOWN", "hear(0, 6, 0, true) OUTSIDE",
@@ -55,15 +55,18 @@ final class HeardEdges {
 
     private static void where(Edges e) {
         e.edge(23, "WHERE: how many sets (what = 0)", "town YR500", "where(0, 0) 64", "where(0, 1) 0", "where(0, 2) 0");
-        e.edge(23, "WHERE: how many sets (what = 0)", "town YR500S03", "where(0, 0) 64", "where(0, 1) 0", "where(0, 2) 0");
-        e.edge(23, "TABLES in all (1), in none (2), as bits; NONE.", "town YR500", "hear(0, 5, 0, true) 1", "where(0, 0) 32",
-            "where(0, 1) 32", "where(0, 2) 0", "hear(0, 0, 0, false) 2", "where(0, 0) 16", "where(0, 1) 32", "where(0, 2) 1");
+        e.edge(23, "WHERE: how many sets (what = 0)", "town YR500S03", "where(0, 0) 64", "where(0, 1) 0",
+            "where(0, 2) 0");
+        e.edge(23, "TABLES in all (1), in none (2), as bits; NONE.", "town YR500", "hear(0, 5, 0, true) 1",
+            "where(0, 0) 32", "where(0, 1) 32", "where(0, 2) 0", "hear(0, 0, 0, false) 2", "where(0, 0) 16",
+            "where(0, 1) 32", "where(0, 2) 1");
         // The set of no tables is a set, too: alone it leaves all tables in none.
         e.edge(23, "WHERE for a RUMOUR: sets of TABLES (bits)", "town YR500", "hear(0, 5, 8, false) 1", "where(0, 0) 1",
             "where(0, 1) 0", "where(0, 2) 63");
-        e.edge(23, "that IN n DAYS (0 to 8) from now on", "town YR500", "hear(0, 5, 8, true) 1", "where(0, 0) 63", "unhear()",
-            "hear(0, 5, 5, true) 1", "where(0, 0) 63", "unhear()", "hear(0, 5, 4, true) 1", "where(0, 0) 62", "unhear()",
-            "hear(0, 5, 1, true) 1", "where(0, 0) 48", "unhear()", "hear(0, 5, 0, true) 1", "where(0, 0) 32");
+        e.edge(23, "that IN n DAYS (0 to 8) from now on", "town YR500", "hear(0, 5, 8, true) 1", "where(0, 0) 63",
+            "unhear()", "hear(0, 5, 5, true) 1", "where(0, 0) 63", "unhear()", "hear(0, 5, 4, true) 1",
+            "where(0, 0) 62", "unhear()", "hear(0, 5, 1, true) 1", "where(0, 0) 48", "unhear()",
+            "hear(0, 5, 0, true) 1", "where(0, 0) 32");
         e.edge(23, "none of them one at which it is DENIED", "town YR500S00S01", "deny(0, 0) 1", "deny(0, 5) 1",
             "where(0, 0) 16", "where(0, 1) 0", "where(0, 2) 33");
         e.edge(23, "none of them one at which it is DENIED", "town YR500", "deny(0, 0)", "deny(0, 1)", "deny(0, 2)",
@@ -74,13 +77,14 @@ final class HeardEdges {
 
     private static void whereThereIsNone(Edges e) {
         String words = "TABLES in all; in none; NONE (of the latter two): there is none.";
-        e.edge(23, words, "town YR500", "hear(0, 3, 0, true) 1", "hear(0, 3, 0, false) 2", "where(0, 0) 0", "where(0, 1) NONE",
-            "where(0, 2) NONE");
+        e.edge(23, words, "town YR500", "hear(0, 3, 0, true) 1", "hear(0, 3, 0, false) 2", "where(0, 0) 0",
+            "where(0, 1) NONE", "where(0, 2) NONE");
         e.edge(23, words, "town YR500", "hear(0, 3, 0, true) 1", "where(0, 1) 8", "deny(0, 3) 0", "where(0, 0) 0",
             "where(0, 1) NONE", "where(0, 2) NONE");
-        e.edge(23, words, "town YR512", "hear(0, 0, 1, true) 1", "where(0, 0) 48", "hear(0, 0, 2, true) 2", "where(0, 0) 0",
-            "where(0, 1) NONE", "where(0, 2) NONE");
-        e.edge(23, words, "town YR500", "hear(0, 3, 1, false) 1", "hear(0, 3, 0, true) 2", "where(0, 0) 0", "where(0, 1) NONE");
+        e.edge(23, words, "town YR512", "hear(0, 0, 1, true) 1", "where(0, 0) 48", "hear(0, 0, 2, true) 2",
+            "where(0, 0) 0", "where(0, 1) NONE", "where(0, 2) NONE");
+        e.edge(23, words, "town YR500", "hear(0, 3, 1, false) 1", "hear(0, 3, 0, true) 2", "where(0, 0) 0",
+            "where(0, 1) NONE");
     }
 
     private static void whereOfOthers(Edges e) {

@@ -45,11 +45,12 @@ final class TownEdges {
         e.edge(2, "OUTSIDE", "write(256) OUTSIDE", "write(345) OUTSIDE", "write(2147483647) OUTSIDE", "count(0) 0");
         e.edge(2, "OUTSIDE (another number is not as told)", "write(-1) -2", "write(256) -2");
         e.edge(2, "STATE (as told), FULL.", "48 write(89)", "write(89) -4", "town() -3");
-        e.edge(2, "FULL: there are 48.", "47 write(89)", "write(89) 48", "write(89) FULL", "write(0) FULL", "count(0) 48");
+        e.edge(2, "FULL: there are 48.", "47 write(89)", "write(89) 48", "write(89) FULL", "write(0) FULL",
+            "count(0) 48");
         e.edge(2, "REFUSALS, of several the first that a call names", "48 write(89)", "write(256) OUTSIDE",
             "write(-1) OUTSIDE");
-        e.edge(2, "THE TEXT is letters (48 at most).", "text " + LONGEST, "count(0) 48", "write(80) FULL", "fault() NONE",
-            "town() 53", "rumour(2, 3) 32");
+        e.edge(2, "THE TEXT is letters (48 at most).", "text " + LONGEST, "count(0) 48", "write(80) FULL",
+            "fault() NONE", "town() 53", "rumour(2, 3) 32");
         e.edge(2, "FULL: there are 48.", "48 write(89)", "write(89) FULL", "wipe() 48", "write(89) 1", "fault() NONE");
         e.edge(2, "What is refused changes nothing.", "text YP3", "write(256) OUTSIDE", "write(-1) OUTSIDE", "town() 1",
             "table(0) 3");
@@ -57,7 +58,8 @@ final class TownEdges {
 
     private static void wipe(Edges e) {
         e.edge(3, "THE TEXT is empty: how long it was.", "wipe() 0", "wipe() 0", "count(0) 0");
-        e.edge(3, "THE TEXT is empty: how long it was.", "write(89) 1", "wipe() 1", "wipe() 0", "count(0) 0", "fault() 0");
+        e.edge(3, "THE TEXT is empty: how long it was.", "write(89) 1", "wipe() 1", "wipe() 0", "count(0) 0",
+            "fault() 0");
         e.edge(3, "THE TEXT is empty: how long it was.", "text " + LONGEST, "wipe() 48", "count(0) 0", "write(89) 1",
             "fault() NONE", "town() 0");
         e.edge(3, "THE TEXT is empty", "town YR500P0S00", "dawn() 1", "wipe() 10", "count(1) 1", "count(2) 1",
@@ -77,7 +79,8 @@ final class TownEdges {
         fault(e, "A TOWN is a TEXT: Y, then PARTS, none or more", "YY", "1");
         fault(e, "A TOWN is a TEXT: Y, then PARTS, none or more", "Yr100", "1");
         fault(e, "A TOWN is a TEXT: Y, then PARTS, none or more", "Y0", "1");
-        e.edge(4, "A TOWN is a TEXT: Y, then PARTS", "write(0) 1", "fault() 0", "wipe() 1", "write(255) 1", "fault() 0");
+        e.edge(4, "A TOWN is a TEXT: Y, then PARTS", "write(0) 1", "fault() 0", "wipe() 1", "write(255) 1",
+            "fault() 0");
         e.edge(4, "A TOWN is a TEXT: Y, then PARTS", "text Y", "write(0) 2", "fault() 1");
         e.edge(4, "A TOWN is a TEXT: Y, then PARTS", "text Y", "write(255) 2", "fault() 1");
         fault(e, "RUMOURS (5 at most)", FIVE, "NONE");
@@ -178,20 +181,21 @@ final class TownEdges {
         fault(e, "its length, if it is only not at its end", "YR100R100X0", "11");
         fault(e, "NONE: none.", LONGEST, "NONE");
         fault(e, "NONE is -9.", "Y", "-9");
-        e.edge(4, "FAULT; NONE.", "town YR500P0S00", "dawn() 1", "text YR100R200R300X01P5P5S00", "fault() NONE", "count(1) 1",
-            "rumour(0, 0) 5", "rumour(0, 5) 0", "table(0) 0", "coins(0, 0) 1");
+        e.edge(4, "FAULT; NONE.", "town YR500P0S00", "dawn() 1", "text YR100R200R300X01P5P5S00", "fault() NONE",
+            "count(1) 1", "rumour(0, 0) 5", "rumour(0, 5) 0", "table(0) 0", "coins(0, 0) 1");
     }
 
     private static void town(Edges e) {
         e.edge(5, "10 times RUMOURS, and PEOPLE.", "text Y", "town() 0", "count(1) 0", "count(2) 0");
-        e.edge(5, "10 times RUMOURS, and PEOPLE.", "text " + FIVE + "P0P1P2P3", "town() 54", "count(1) 5", "count(2) 4");
+        e.edge(5, "10 times RUMOURS, and PEOPLE.", "text " + FIVE + "P0P1P2P3", "town() 54", "count(1) 5",
+            "count(2) 4");
         e.edge(5, "10 times RUMOURS, and PEOPLE.", "text YR100", "town() 10", "text YP0", "town() 1");
         e.edge(5, "are numbered as they are told, each for itself", "text YP3R900P1R211P5", "town() 23", "table(0) 3",
             "table(1) 1", "table(2) 5", "rumour(0, 0) 9", "rumour(1, 0) 2", "rumour(0, 1) 0", "rumour(1, 1) 1");
-        e.edge(5, "THE TEXT is THE TOWN", "town YR500R500P0S00S15", "rumour(0, 3) 1", "rumour(1, 3) 32", "text YR500R500S15",
-            "count(2) 1", "town() 20", "count(2) 0", "rumour(0, 3) 0", "rumour(1, 3) 32");
-        e.edge(5, "THE TEXT is THE TOWN", "town YR500", "count(0) 5", "write(80) 6", "town() STATE", "write(48) 7", "town() 11",
-            "count(0) 7", "table(0) 0");
+        e.edge(5, "THE TEXT is THE TOWN", "town YR500R500P0S00S15", "rumour(0, 3) 1", "rumour(1, 3) 32",
+            "text YR500R500S15", "count(2) 1", "town() 20", "count(2) 0", "rumour(0, 3) 0", "rumour(1, 3) 32");
+        e.edge(5, "THE TEXT is THE TOWN", "town YR500", "count(0) 5", "write(80) 6", "town() STATE", "write(48) 7",
+            "town() 11", "count(0) 7", "table(0) 0");
         e.edge(5, "THE TEXT is THE TOWN", "town YR500R500X01", "rumour(0, 5) 2", "town YR500R500", "rumour(0, 5) 0",
             "rumour(1, 5) 0");
     }
@@ -201,13 +205,13 @@ final class TownEdges {
             "count(7) 0", "undo() STATE");
         e.edge(5, "what was kept is gone", "town YR500P0S00", "keep(0) 0", "keep(1) 0", "town() 11", "again(0) STATE",
             "again(1) STATE");
-        e.edge(5, "what is HEARD, THE SEED stay)", "town YR500P0S00", "hear(0, 5, 0, true) 1", "town() 11", "count(8) 1",
-            "where(0, 1) 32");
+        e.edge(5, "what is HEARD, THE SEED stay)", "town YR500P0S00", "hear(0, 5, 0, true) 1", "town() 11",
+            "count(8) 1", "where(0, 1) 32");
         e.edge(5, "what is HEARD, THE SEED stay)", "town YR500P0S00", "seed(-7) 0", "town() 11", "seed(0) -7");
         e.edge(5, "THE DAY is 0", "town YR501P0S00", "3 dawn()", "rumour(0, 6) 1", "town() 11", "count(3) 0",
             "rumour(0, 6) 0");
-        e.edge(5, "nothing is DENIED", "town YR500R500S00", "deny(0, 0) 0", "deny(1, 5) 0", "town() 20", "rumour(0, 4) 0",
-            "rumour(1, 4) 0", "rumour(0, 3) 1", "say(1, 5) 1");
+        e.edge(5, "nothing is DENIED", "town YR500R500S00", "deny(0, 0) 0", "deny(1, 5) 0", "town() 20",
+            "rumour(0, 4) 0", "rumour(1, 4) 0", "rumour(0, 3) 1", "say(1, 5) 1");
         e.edge(5, "PURSES are empty, when THE TOWN is made anew.", "town YR500R500P0P0S00S10", "dawn() 4", "town() 22",
             "count(4) 0", "coins(0, 0) 0", "coins(1, 1) 0");
     }
@@ -217,33 +221,37 @@ final class TownEdges {
         e.edge(5, "STATE: a FAULT.", "text YP0P", "town() STATE", "count(2) 0");
         e.edge(5, "STATE: a FAULT.", "text YP0P6", "town() STATE", "count(2) 0");
         e.edge(5, "What is refused changes nothing.", "town YR413R600X01P3S00", "dawn() 0", "say(1, 3) 1", "dawn() 1",
-            "deny(0, 5) 3", "keep(1) 2", "text YR900R900R900P0P0R", "town() STATE", "count(1) 2", "count(2) 1", "count(3) 2",
-            "count(4) 1", "count(7) 4", "rumour(0, 0) 4", "rumour(0, 4) 32", "rumour(1, 5) 1", "table(0) 3", "again(1) 2");
+            "deny(0, 5) 3", "keep(1) 2", "text YR900R900R900P0P0R", "town() STATE", "count(1) 2", "count(2) 1",
+            "count(3) 2", "count(4) 1", "count(7) 4", "rumour(0, 0) 4", "rumour(0, 4) 32", "rumour(1, 5) 1",
+            "table(0) 3", "again(1) 2");
     }
 
     private static void rumour(Edges e) {
         e.edge(6, "Of a RUMOUR its WORD (what = 0)", "town YR100R900", "rumour(0, 0) 1", "rumour(1, 0) 9");
         e.edge(6, "1 if it is a lie (1)", "town YR100R110", "rumour(0, 1) 0", "rumour(1, 1) 1");
-        e.edge(6, "the DAY on which it is PROVED (2; 0: never)", "town YR100R101R109R113", "rumour(0, 2) 0", "rumour(1, 2) 1",
-            "rumour(2, 2) 9", "rumour(3, 2) 3");
-        e.edge(6, "TABLES at which it is SAID (3: bits)", "town YR100R100R100S10S25", "rumour(0, 3) 0", "rumour(1, 3) 1",
-            "rumour(2, 3) 32");
+        e.edge(6, "the DAY on which it is PROVED (2; 0: never)", "town YR100R101R109R113", "rumour(0, 2) 0",
+            "rumour(1, 2) 1", "rumour(2, 2) 9", "rumour(3, 2) 3");
+        e.edge(6, "TABLES at which it is SAID (3: bits)", "town YR100R100R100S10S25", "rumour(0, 3) 0",
+            "rumour(1, 3) 1", "rumour(2, 3) 32");
         e.edge(6, "TABLES at which it is SAID (3: bits)", "town YR100S00S01S02S03S04S05", "rumour(0, 3) 63",
             "rumour(0, 4) 0");
         e.edge(6, "DENIED (4: bits)", "town YR100", "rumour(0, 4) 0", "deny(0, 0) 0", "rumour(0, 4) 1", "deny(0, 5) 0",
-            "rumour(0, 4) 33", "deny(0, 1)", "deny(0, 2)", "deny(0, 3)", "deny(0, 4)", "rumour(0, 4) 63", "rumour(0, 3) 0");
+            "rumour(0, 4) 33", "deny(0, 1)", "deny(0, 2)", "deny(0, 3)", "deny(0, 4)", "rumour(0, 4) 63",
+            "rumour(0, 3) 0");
         e.edge(6, "RUMOURS that can not be beside it (5: bits)", "town " + FIVE + "X04X12X14", "rumour(0, 5) 16",
             "rumour(1, 5) 20", "rumour(2, 5) 2", "rumour(3, 5) 0", "rumour(4, 5) 3");
         e.edge(6, "1 if it is PROVED (6)", "town YR102R112R100", "dawn()", "rumour(0, 6) 0", "rumour(1, 6) 0", "dawn()",
             "rumour(0, 6) 1", "rumour(1, 6) 1", "rumour(2, 6) 0", "dawn()", "rumour(0, 6) 1", "rumour(1, 6) 1");
         e.edge(6, "PROVED is a RUMOUR from its DAY on.", "town YR109R101", "rumour(1, 6) 0", "dawn()", "rumour(1, 6) 1",
             "7 dawn()", "rumour(0, 6) 0", "dawn()", "rumour(0, 6) 1", "60 dawn()", "rumour(0, 6) 1", "rumour(1, 6) 1");
-        e.edge(6, "0: never)", "town YR100R110S10", "120 dawn()", "rumour(0, 6) 0", "rumour(1, 6) 0", "rumour(1, 3) 63");
+        e.edge(6, "0: never)", "town YR100R110S10", "120 dawn()", "rumour(0, 6) 0", "rumour(1, 6) 0",
+            "rumour(1, 3) 63");
     }
 
     private static void rumourRefused(Edges e) {
         e.edge(6, "UNKNOWN", "town YR100R100", "rumour(-1, 0) UNKNOWN", "rumour(-2147483648, 0) UNKNOWN");
-        e.edge(6, "UNKNOWN", "town YR100R100", "rumour(1, 0) 1", "rumour(2, 0) UNKNOWN", "rumour(2147483647, 0) UNKNOWN");
+        e.edge(6, "UNKNOWN", "town YR100R100", "rumour(1, 0) 1", "rumour(2, 0) UNKNOWN",
+            "rumour(2147483647, 0) UNKNOWN");
         e.edge(6, "UNKNOWN", "town " + FIVE, "rumour(4, 0) 1", "rumour(5, 0) UNKNOWN");
         e.edge(6, "UNKNOWN (there is no such RUMOUR, PERSON, SLOT)", "town " + FIVE, "town YR100", "rumour(0, 0) 1",
             "rumour(1, 0) -1");
